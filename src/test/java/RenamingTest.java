@@ -13,6 +13,7 @@ public final class RenamingTest {
         overridingIsOneFamily();
         siblingsJoinThroughTheirParent();
         siblingsJoinThroughAStandIn();
+        onlySelfOfThatArityStandsIn();
         standInsClash();
         standInsAloneAreNone();
         oneKeptKeepsItsFamily();
@@ -75,6 +76,14 @@ public final class RenamingTest {
         CodeShrinker y = program(-1, 0, 0);
         methods(y, "0/5/0 1/9/1 2/8/1 2/9/1");
         renamed(y, 4, 0, 0, 0, 1);
+    }
+
+    private static void onlySelfOfThatArityStandsIn() {
+        CodeShrinker x = program(-1, 0, 0);
+        methods(x, "0/5/0 1/9/1 2/8/1 2/9/1");
+        x.item(0, 1, 0, 9, 1);
+        x.item(0, 2, 0, 9, 2);
+        renamed(x, 4, 0, 0, 0, 1);
     }
 
     /** CLASS 2's METHOD is below the stand-in's CLASS, so it clashes with what the stand-in joins. */

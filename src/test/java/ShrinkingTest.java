@@ -14,6 +14,7 @@ public final class ShrinkingTest {
         selfLooksBelowTheMethodsClassOnly();
         selfSeesClassesMadeLater();
         ancestorsOfMadeStay();
+        parentsAreNumberedAnew();
         numbersAreGivenAnew();
         beginningsAreRemembered();
         roomComesBack();
@@ -163,6 +164,20 @@ public final class ShrinkingTest {
         checks.due("PARENT of what was 3", 1, () -> x.count(12));
         checks.due("CLASS of the METHOD", 2, () -> x.told(0, 0));
         checks.due("CLASS at its beginning", 3, () -> x.told(0, 5));
+    }
+
+    private static void parentsAreNumberedAnew() {
+        CodeShrinker x = new CodeShrinker();
+        x.add(-1);
+        x.add(-1);
+        x.add(1);
+        x.method(2, 0, 0);
+        x.keep(0, true);
+        checks.due("no METHOD goes", 0, x::shrink);
+        checks.due("two CLASSES stay", 2, () -> x.count(0));
+        checks.due("PARENT of what was 1", -1, () -> x.count(10));
+        checks.due("PARENT of what was 2", 0, () -> x.count(11));
+        checks.due("no CLASS 2", -2, () -> x.count(12));
     }
 
     private static void numbersAreGivenAnew() {
