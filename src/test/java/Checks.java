@@ -23,10 +23,6 @@ final class Checks {
         compare(call, "0", told(asCall(deed)));
     }
 
-    void dueThrowOf(String call, Class<? extends RuntimeException> want, Deed deed) {
-        dueThrow(call, want, asCall(deed));
-    }
-
     void compare(String call, String want, String got) {
         made++;
         if (!want.equals(got)) {

@@ -8,16 +8,16 @@ import java.util.TreeSet;
 /** The public face of the document, and LANGUAGE.md's rule 1 on what else may be seen. */
 public final class FaceTest {
     private static final Set<String> FACE = Set.of(
-            "int add(int)",
-            "int method(int,int,int)",
-            "int item(int,int,int,int,int)",
-            "void keep(int,boolean)",
-            "int run(int,int,int)",
+            "int add(int) IllegalArgumentException IllegalStateException",
+            "int method(int,int,int) IllegalArgumentException IllegalStateException",
+            "int item(int,int,int,int,int) IllegalArgumentException IllegalStateException",
+            "void keep(int,boolean) IllegalArgumentException",
+            "int run(int,int,int) IllegalArgumentException NoSuchElementException IllegalStateException",
             "int shrink()",
             "int rename()",
-            "int told(int,int)",
-            "int inside(int,int,int)",
-            "int trace(int,int,int)",
+            "int told(int,int) IllegalArgumentException",
+            "int inside(int,int,int) IllegalArgumentException NoSuchElementException",
+            "int trace(int,int,int) IllegalArgumentException NoSuchElementException",
             "int count(int)");
 
     public static void main(String[] args) {
@@ -46,7 +46,11 @@ public final class FaceTest {
         for (Class<?> parameter : m.getParameterTypes()) {
             text.append(text.charAt(text.length() - 1) == '(' ? "" : ",").append(parameter);
         }
-        return text.append(")").toString();
+        text.append(")");
+        for (Class<?> thrown : m.getExceptionTypes()) {
+            text.append(" ").append(thrown.getSimpleName());
+        }
+        return text.toString();
     }
 
     private static Set<String> seenBesides(Class<?> face) {

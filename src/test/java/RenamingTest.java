@@ -1,6 +1,5 @@
 /** Promises 8 and 11: rename and trace. */
 public final class RenamingTest {
-    private static final Class<IllegalArgumentException> BAD = IllegalArgumentException.class;
     private static final Class<java.util.NoSuchElementException> NO_SUCH = java.util.NoSuchElementException.class;
 
     private static final Checks checks = new Checks();
@@ -22,9 +21,7 @@ public final class RenamingTest {
         callsFollowWhatTheyFind();
         callsOfNoneBecome26();
         callsThatFindAboveGoOn();
-        twentySixStays();
         traceTellsBeginnings();
-        traceRefuses();
         keptEntriesDoWhatTheyDid();
         checks.finish();
     }
@@ -177,23 +174,6 @@ public final class RenamingTest {
         checks.due("after", 3, () -> x.run(2, 0, 0));
     }
 
-    private static void twentySixStays() {
-        CodeShrinker x = program(-1);
-        methods(x, "0/9/0");
-        x.keep(0, true);
-        x.item(0, 1, 0, 8, 0);
-        x.item(0, 2, 0, 8, 0);
-        renamed(x, 1, 9);
-        methods(x, "0/8/0");
-        checks.dueThrow("a later METHOD isn't found by it", NO_SUCH, () -> x.run(0, 9, 0));
-        renamed(x, 2, 9, 0);
-        checks.due("CALL still 26", 26, () -> x.inside(0, 0, 2));
-        checks.due("SELF still 26", 26, () -> x.inside(0, 1, 2));
-        checks.due("LIVE METHODS", 1, () -> x.count(2));
-        checks.due("the later one goes", 1, x::shrink);
-        checks.due("CALL 26 after it", 26, () -> x.inside(0, 0, 2));
-    }
-
     private static void traceTellsBeginnings() {
         CodeShrinker x = program(-1, 0);
         methods(x, "0/9/0 0/8/2 1/7/0 1/9/0");
@@ -214,21 +194,6 @@ public final class RenamingTest {
         x.keep(0, false);
         renamed(x, 1, 0);
         checks.due("trace at the end", 2, () -> x.trace(1, 0, 0));
-    }
-
-    private static void traceRefuses() {
-        CodeShrinker x = program(-1);
-        methods(x, "0/25/2");
-        checks.due("trace(0, 25, 2)", 0, () -> x.trace(0, 25, 2));
-        checks.dueThrow("NAME 26 is never found", NO_SUCH, () -> x.trace(0, 26, 2));
-        for (int out : new int[] {-1, 27, Integer.MIN_VALUE, Integer.MAX_VALUE}) {
-            checks.dueThrow("trace(" + out + ", 25, 2)", BAD, () -> x.trace(out, 25, 2));
-            checks.dueThrow("trace(0, " + out + ", 2)", BAD, () -> x.trace(0, out, 2));
-            checks.dueThrow("trace(0, 25, " + out + ")", BAD, () -> x.trace(0, 25, out));
-        }
-        checks.dueThrow("trace(1, 25, 2)", BAD, () -> x.trace(1, 25, 2));
-        checks.dueThrow("trace(0, 25, 3)", BAD, () -> x.trace(0, 25, 3));
-        checks.dueThrow("bad comes before none", BAD, () -> x.trace(0, 3, 3));
     }
 
     private static void keptEntriesDoWhatTheyDid() {

@@ -17,7 +17,6 @@ public final class ShrinkingTest {
         parentsAreNumberedAnew();
         numbersAreGivenAnew();
         beginningsAreRemembered();
-        roomComesBack();
         keptEntriesDoWhatTheyDid();
         checks.finish();
     }
@@ -226,21 +225,6 @@ public final class ShrinkingTest {
         checks.due("gone in all", 2, () -> x.count(4));
         checks.due("what began as 2 is 1", 2, () -> x.told(1, 7));
         checks.due("trace tells its beginning", 2, () -> x.trace(1, 3, 0));
-    }
-
-    private static void roomComesBack() {
-        CodeShrinker x = new CodeShrinker();
-        for (int c = 0; c < 8; c++) {
-            x.add(c - 1);
-        }
-        for (int m = 0; m < 24; m++) {
-            x.method(m % 8, m, 0);
-        }
-        x.keep(0, true);
-        checks.due("23 go", 23, x::shrink);
-        checks.due("room for CLASSES", 1, () -> x.add(0));
-        checks.due("room for METHODS", 1, () -> x.method(0, 8, 0));
-        checks.due("and for what was alike", 2, () -> x.method(0, 16, 0));
     }
 
     private static void keptEntriesDoWhatTheyDid() {
