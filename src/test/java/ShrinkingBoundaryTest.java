@@ -19,6 +19,7 @@ public final class ShrinkingBoundaryTest {
         selfOfNone();
         untilNothingIsAddedByCalls();
         untilNothingIsAddedByClasses();
+        untilNothingIsAddedByOneClass();
         nothingToShrink();
         allMethodsGone();
         noMethodsGone();
@@ -157,6 +158,15 @@ public final class ShrinkingBoundaryTest {
         }
         s.rows("method(0, 0, 0) = 8", "item(8, 2, 0, 1, 0) = 1", "keep(8, true)", "count(2) = 9", "count(3) = 8",
                 "shrink() = 0");
+    }
+
+    /** Behind METHOD 0's SELF, METHOD 1 adds a MADE CLASS and no LIVE METHOD: the SELF comes to it even so. */
+    private static void untilNothingIsAddedByOneClass() {
+        script("Promise 12, Terms: And so on until nothing is added.").rows(
+                "add(-1) = 0", "add(0) = 1", "add(-1) = 2", "method(0, 0, 0) = 0", "item(0, 2, 0, 1, 0) = 1",
+                "method(2, 0, 0) = 1", "item(1, 1, 1, 25, 0) = 1", "method(1, 1, 0) = 2", "keep(0, true)",
+                "keep(1, true)", "count(3) = 3", "count(2) = 3", "shrink() = 0", "keep(1, false)", "count(3) = 1",
+                "count(2) = 1", "shrink() = 2");
     }
 
     private static void nothingToShrink() {
