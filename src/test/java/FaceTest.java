@@ -74,11 +74,17 @@ public final class FaceTest {
         return found;
     }
 
-    private static Set<String> borrowedNames(Class<?> face) {
-        Set<String> publicNames = new TreeSet<>();
+    /** The names of the face's calls. */
+    static Set<String> names() {
+        Set<String> names = new TreeSet<>();
         for (String signature : FACE) {
-            publicNames.add(signature.substring(signature.indexOf(' ') + 1, signature.indexOf('(')));
+            names.add(signature.substring(signature.indexOf(' ') + 1, signature.indexOf('(')));
         }
+        return names;
+    }
+
+    private static Set<String> borrowedNames(Class<?> face) {
+        Set<String> publicNames = names();
         Set<String> found = new TreeSet<>();
         addBorrowed(face, publicNames, found);
         for (Class<?> c : face.getDeclaredClasses()) {

@@ -25,13 +25,21 @@ final class Script {
 
     Script rows(String... rows) {
         for (String row : rows) {
-            one(row);
+            one(row, false);
+        }
+        return this;
+    }
+
+    /** Rows that just ask: behind each of them, too, all that can be seen must be as it was. */
+    Script asks(String... rows) {
+        for (String row : rows) {
+            one(row, true);
         }
         return this;
     }
 
     Script row(String form, Object... parts) {
-        one(String.format(form, parts));
+        one(String.format(form, parts), false);
         return this;
     }
 
@@ -39,7 +47,7 @@ final class Script {
         return calls.size();
     }
 
-    private void one(String row) {
+    private void one(String row, boolean justAsks) {
         int split = row.indexOf(" = ");
         String call = split < 0 ? row : row.substring(0, split);
         String due = split < 0 ? "" : exception(row.substring(split + 3));
@@ -47,7 +55,7 @@ final class Script {
         if (!due.isEmpty() || got.endsWith("Exception")) {
             checks.compare(sentence + " | " + call, due, got);
         }
-        if (due.endsWith("Exception") && calls.size() <= MOST_BEFORE_REFUSED) {
+        if ((justAsks || due.endsWith("Exception")) && calls.size() <= MOST_BEFORE_REFUSED) {
             checks.compare(sentence + " | what is seen behind " + call, seen(calls, ""), seen(calls, call));
         }
         calls.add(call);
